@@ -98,7 +98,7 @@ public final class TemporaryReals {
         long second = join(c, d);
         long third = l ? HIGHEST_BIT : 0L;
         int k = e + 127;
-        for (int i = 0; i < 2 && first == 0L; i++) {
+        if (first == 0L) {
             first = second;
             second = third;
             third = 0L;
@@ -289,7 +289,7 @@ public final class TemporaryReals {
         if (drop > 64) {
             return 1L;
         }
-        long lost = drop == 64 ? head : head << (64 - drop);
+        long lost = head << (64 - drop);
         return tail == 0L ? lost : lost | 1L;
     }
 

@@ -122,7 +122,8 @@ public final class MakeTest {
                 x.control(0x003f | precisions[i] << 8 | rounding << 10);
                 check.due("too great", x.make(1, false, 33000, 1, 2, 3, 4, true), 40);
                 boolean infinite = rounding == 0 || rounding == 2;
-                dueMade(check, x, 40, infinite ? 32767 : 32766, infinite ? HALF : greatest[i], 33096, infinite ? 1 : -1);
+                dueMade(check, x, 40, infinite ? 32767 : 32766, infinite ? HALF : greatest[i], 33096,
+                        infinite ? 1 : -1);
                 check.due("too great with the sign -", x.make(1, true, 16384, 0, 0, 0, 1, false), 40);
                 infinite = rounding == 0 || rounding == 1;
                 dueMade(check, x, 40, 0x8000 + (infinite ? 32767 : 32766), infinite ? HALF : greatest[i], 16384,

@@ -1,7 +1,5 @@
 /** All that can be seen of an object, to tell that a call changed nothing. */
 final class State {
-    static final int MASKED_NEAREST_64 = 0x033f;
-
     private State() {
     }
 
