@@ -104,6 +104,7 @@ public final class TemporaryReals {
             third = 0L;
             k -= 64;
         }
+        // 64 zeros are left when g is 0: then the shift brings l itself to the head.
         int zeros = Long.numberOfLeadingZeros(first);
         long head = shiftIn(first, second, zeros);
         long tail = shiftIn(second, third, zeros);
