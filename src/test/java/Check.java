@@ -1,22 +1,42 @@
-/** Counts the answers that are not the ones due; each test ends through end(). */
+/** Counts the answers that are not the ones due, by the document's sentences; each test ends through end(). */
 final class Check {
     private static final int SHOWN = 40;
     private int wrong = 0;
     private int looked = 0;
+    private int sentences = 0;
+    private int lookedBefore = -1;
+    private String sentence = "";
 
     /** A call whose exception is looked at. */
     interface Call {
         void run();
     }
 
-    void due(String what, long got, long want) {
-        looked++;
-        if (got == want) {
-            return;
+    /** The sentence by which the answers that follow are due; one by which nothing is looked at is a fault too. */
+    void by(String words) {
+        endSentence();
+        sentences++;
+        sentence = words;
+        lookedBefore = looked;
+    }
+
+    private void endSentence() {
+        if (looked == lookedBefore) {
+            wrong("nothing was looked at");
         }
+    }
+
+    private void wrong(String what) {
         wrong++;
         if (wrong <= SHOWN) {
-            System.out.println(what + " answered " + got + ", due is " + want);
+            System.out.println("[" + sentence + "] " + what);
+        }
+    }
+
+    void due(String what, long got, long want) {
+        looked++;
+        if (got != want) {
+            wrong(what + " answered " + got + ", due is " + want);
         }
     }
 
@@ -48,9 +68,10 @@ final class Check {
     }
 
     void end() {
-        System.out.println(wrong == 0 ? "all " + looked + " answers are as due"
+        endSentence();
+        System.out.println(wrong == 0 ? "all " + looked + " answers by " + sentences + " sentences are as due"
                 : wrong + " of " + looked + " answers are not as due");
-        if (wrong != 0) {
+        if (wrong != 0 || looked == 0) {
             System.exit(1);
         }
     }

@@ -12,6 +12,7 @@ public final class FaceTest {
 
     public static void main(String[] args) {
         Check check = new Check();
+        check.by("The public face");
         Set<String> want = new TreeSet<>(Set.of(
                 "public static final int TemporaryReals.NONE",
                 "public TemporaryReals()",

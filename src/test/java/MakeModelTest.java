@@ -9,6 +9,7 @@ public final class MakeModelTest {
     private static final Patterns STREAM = new Patterns(5);
 
     public static void main(String[] args) {
+        CHECK.by("TO MAKE a real of a sign and an exact size x");
         for (int word = 0; word < 0x1000; word++) {
             // The bits below the masks and between them and the precision are ControlTest's.
             if ((word & 0x00c7) == 0) {

@@ -1,70 +1,84 @@
-/** Promise 4: top, high, low, kind and zeros of a register. */
+/** Promise 4: top, high, low, kind and zeros of a register; KindTest has the kinds. */
 public final class PartTest {
     public static void main(String[] args) {
         Check check = new Check();
-        kinds(check);
+        parts(check);
         zeros(check);
-        refused(check);
+        noDigit(check);
+        changesNothing(check);
+        noSuchRegister(check);
+        noSuchPart(check);
         check.end();
     }
 
-    private static void dueKind(Check check, int top, long fraction, int kind) {
+    private static void parts(Check check) {
+        check.by("what = 0 top, 1 high, 2 low, 3 its kind, 4 how many zeros");
         TemporaryReals x = new TemporaryReals();
-        State.set(x, 2, top, fraction);
-        State.set(x, 3, top | 0x8000, fraction);
-        check.due("kind of " + top + " " + fraction, x.part(2, 3), kind);
-        check.due("kind of it with the sign -", x.part(3, 3), kind);
-    }
-
-    private static void kinds(Check check) {
-        dueKind(check, 0, 0L, 0);
-        dueKind(check, 0, 1L, 1);
-        dueKind(check, 0, Long.MAX_VALUE, 1);
-        dueKind(check, 0, Long.MIN_VALUE, 1);
-        dueKind(check, 0, -1L, 1);
-        int[] powers = {1, 2, 16383, 32765, 32766};
-        for (int p : powers) {
-            dueKind(check, p, 0L, 2);
-            dueKind(check, p, 1L, 2);
-            dueKind(check, p, Long.MAX_VALUE, 2);
-            dueKind(check, p, Long.MIN_VALUE, 3);
-            dueKind(check, p, -1L, 3);
+        for (int r = 0; r < 8; r++) {
+            x.set(r, 0xc000 + r, 0x00ffffff - r, 0x80000000 + r);
+            check.due("top of " + r, x.part(r, 0), 0xc000 + r);
+            check.due("high of " + r, x.part(r, 1), 0x00ffffff - r);
+            check.due("low of " + r, x.part(r, 2), 0x80000000 + r);
+            check.due("kind of " + r, x.part(r, 3), 2);
+            check.due("zeros of " + r, x.part(r, 4), 8);
         }
-        dueKind(check, 32767, 0L, 4);
-        dueKind(check, 32767, Long.MIN_VALUE, 4);
-        dueKind(check, 32767, 1L, 5);
-        dueKind(check, 32767, 0x4000000000000000L, 5);
-        dueKind(check, 32767, 0x100000000L, 5);
-        dueKind(check, 32767, Long.MAX_VALUE, 5);
-        dueKind(check, 32767, Long.MIN_VALUE + 1L, 5);
-        dueKind(check, 32767, 0xc000000000000000L, 5);
-        dueKind(check, 32767, -1L, 5);
     }
 
     private static void zeros(Check check) {
-        TemporaryReals x = new TemporaryReals();
-        for (int bit = 0; bit < 64; bit++) {
-            State.set(x, 6, 0x7fff, 1L << bit);
-            check.due("zeros before bit " + bit, x.part(6, 4), 63 - bit);
-            State.set(x, 6, 0, (1L << bit) | 1L);
-            check.due("zeros before bit " + bit + " and 0", x.part(6, 4), 63 - bit);
+        check.by("4 how many zeros the fraction has before its first digit 1");
+        int[] tops = {0, 1, 0x7fff, 0x8000, 0xffff};
+        for (int top : tops) {
+            TemporaryReals x = new TemporaryReals();
+            for (int bit = 0; bit < 64; bit++) {
+                State.set(x, 6, top, 1L << bit);
+                check.due("zeros before bit " + bit, x.part(6, 4), 63 - bit);
+                State.set(x, 6, top, (1L << bit) | 1L);
+                check.due("zeros before bit " + bit + " and 0", x.part(6, 4), 63 - bit);
+            }
         }
-        State.set(x, 6, 0x8005, 0L);
-        check.due("zeros when there is no 1", x.part(6, 4), 64);
     }
 
-    private static void refused(Check check) {
-        int[] registers = {-1, 8, Integer.MIN_VALUE, Integer.MAX_VALUE};
-        int[] whats = {-1, 5, Integer.MIN_VALUE, Integer.MAX_VALUE};
-        for (int i = 0; i < 4; i++) {
+    private static void noDigit(Check check) {
+        check.by("(64 when there is none)");
+        int[] tops = {0, 1, 5, 0x7ffe, 0x7fff, 0x8000, 0x8005, 0xffff};
+        for (int top : tops) {
             TemporaryReals x = State.filled();
-            int r = registers[i];
-            int what = whats[i];
-            State.dueRefused(check, "part(" + r + ", 0)", IndexOutOfBoundsException.class, x, () -> x.part(r, 0));
-            State.dueRefused(check, "part(0, " + what + ")", IllegalArgumentException.class, x,
-                    () -> x.part(0, what));
-            State.dueRefused(check, "part(" + r + ", " + what + ")", IndexOutOfBoundsException.class, x,
-                    () -> x.part(r, what));
+            State.set(x, 6, top, 0L);
+            check.due("zeros with top " + top, x.part(6, 4), 64);
+        }
+    }
+
+    private static void changesNothing(Check check) {
+        check.by("part() only answers");
+        TemporaryReals x = State.filled();
+        for (int what = 0; what < 5; what++) {
+            x.part(7, what);
+        }
+        TemporaryReals twin = State.filled();
+        check.dueTrue("registers and last()", State.seen(x).equals(State.seen(twin)));
+        check.dueTrue("the control", State.control(x).equals(State.control(twin)));
+    }
+
+    private static void noSuchRegister(Check check) {
+        check.by("IndexOutOfBoundsException when there is no such register");
+        for (int r : State.NO_REGISTERS) {
+            for (int what = -1; what <= 5; what++) {
+                int asked = what;
+                State.dueRefused(check, "part(" + r + ", " + what + ")", IndexOutOfBoundsException.class,
+                        x -> x.part(r, asked));
+            }
+        }
+    }
+
+    private static void noSuchPart(Check check) {
+        check.by("IllegalArgumentException when what is none of these");
+        int[] whats = {-1, 5, 6, 8, 256, Integer.MIN_VALUE, Integer.MAX_VALUE};
+        for (int what : whats) {
+            for (int r = 0; r < 8; r++) {
+                int asked = r;
+                State.dueRefused(check, "part(" + r + ", " + what + ")", IllegalArgumentException.class,
+                        x -> x.part(asked, what));
+            }
         }
     }
 }
