@@ -1,7 +1,9 @@
 /** Counts the answers that are not the ones due, by the document's sentences; each test ends through end(). */
 final class Check {
-    private static final int SHOWN = 40;
+    /** Of each sentence. */
+    private static final int SHOWN = 8;
     private int wrong = 0;
+    private int wrongBySentence = 0;
     private int looked = 0;
     private int sentences = 0;
     private int lookedBefore = -1;
@@ -18,6 +20,7 @@ final class Check {
         sentences++;
         sentence = words;
         lookedBefore = looked;
+        wrongBySentence = 0;
     }
 
     private void endSentence() {
@@ -28,7 +31,8 @@ final class Check {
 
     private void wrong(String what) {
         wrong++;
-        if (wrong <= SHOWN) {
+        wrongBySentence++;
+        if (wrongBySentence <= SHOWN) {
             System.out.println("[" + sentence + "] " + what);
         }
     }

@@ -1,6 +1,13 @@
 /** Promise 9: sentence by sentence, then every edge and many others against the model. */
 public final class NeighbourTest {
     private static final long HIGHEST = Long.MIN_VALUE;
+    /** One of each way in which neighbour() finds its answer. */
+    private static final Patterns.Pattern[] CORNERS = {new Patterns.Pattern(0, 0L), new Patterns.Pattern(9, 0L),
+        new Patterns.Pattern(0, 1L), new Patterns.Pattern(0, 7L), new Patterns.Pattern(0, Long.MAX_VALUE),
+        new Patterns.Pattern(0, -1L), new Patterns.Pattern(1, HIGHEST), new Patterns.Pattern(1, -1L),
+        new Patterns.Pattern(2, HIGHEST), new Patterns.Pattern(70, 1L), new Patterns.Pattern(16383, HIGHEST),
+        new Patterns.Pattern(16383, HIGHEST + 1L), new Patterns.Pattern(32766, -1L), new Patterns.Pattern(32767, 0L),
+        new Patterns.Pattern(32767, HIGHEST), new Patterns.Pattern(32767, 1L), new Patterns.Pattern(32767, -1L)};
 
     public static void main(String[] args) {
         Check check = new Check();
@@ -19,6 +26,7 @@ public final class NeighbourTest {
         againstModel(check);
         registers(check);
         controlIsNoMatter(check);
+        onlyTheRegisterChanges(check);
         noSuchRegister(check);
         check.end();
     }
@@ -207,17 +215,39 @@ public final class NeighbourTest {
     private static void controlIsNoMatter(Check check) {
         check.by("the least real of 64 digits: whatever the control says");
         for (int word = 0; word < 0x1000; word += 8) {
-            TemporaryReals x = new TemporaryReals();
-            x.control(word);
-            State.set(x, 0, 0, 7L);
-            x.neighbour(0, true, 1);
-            check.duePattern("under control " + word, x, 1, 0, 8L);
-            State.set(x, 0, 0x8000 + 16383, HIGHEST);
-            x.neighbour(0, false, 1);
-            check.duePattern("under control " + word, x, 1, 0x8000 + 16383, HIGHEST + 1L);
-            State.set(x, 0, 32766, -1L);
-            x.neighbour(0, true, 1);
-            check.duePattern("under control " + word, x, 1, 32767, HIGHEST);
+            for (Patterns.Pattern pattern : CORNERS) {
+                for (int way = 0; way < 4; way++) {
+                    dueSameUnder(check, word, way / 2 << 15 | pattern.top(), pattern.fraction(), way % 2 == 1);
+                }
+            }
+        }
+    }
+
+    private static void dueSameUnder(Check check, int word, int top, long fraction, boolean up) {
+        TemporaryReals x = new TemporaryReals();
+        x.control(word);
+        State.set(x, 0, top, fraction);
+        x.neighbour(0, up, 1);
+        TemporaryReals twin = new TemporaryReals();
+        State.set(twin, 0, top, fraction);
+        twin.neighbour(0, up, 1);
+        check.dueTrue("of " + top + " " + fraction + " under control " + word, State.seen(x).equals(State.seen(twin)));
+    }
+
+    private static void onlyTheRegisterChanges(Check check) {
+        check.by("The neighbour of register r's number goes into another one: nothing else changes");
+        for (Patterns.Pattern pattern : CORNERS) {
+            for (int way = 0; way < 4; way++) {
+                TemporaryReals x = State.filled(0x0a10);
+                TemporaryReals twin = State.filled(0x0a10);
+                int top = way / 2 << 15 | pattern.top();
+                State.set(x, 3, top, pattern.fraction());
+                State.set(twin, 3, top, pattern.fraction());
+                x.neighbour(3, way % 2 == 1, 6);
+                State.dueKeepsOthers(check, "neighbour of " + pattern, x, twin, 6);
+                check.dueLast("neighbour is no make", x, twin.last(0), twin.last(1), twin.last(2));
+                check.dueTrue("neighbour keeps the control", State.control(x).equals(State.control(twin)));
+            }
         }
     }
 
