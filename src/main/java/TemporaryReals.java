@@ -24,7 +24,7 @@ public final class TemporaryReals {
     private static final int DOWN = 1;
     private static final int UP = 2;
 
-    private static final long HIGHEST_BIT = Long.MIN_VALUE;
+    private static final long HIGHEST_BIT = 1L << 63;
     private static final long ALL_ONES = -1L;
 
     /** A NORMAL real of power p has its first digit at 2^(p - BIAS). */

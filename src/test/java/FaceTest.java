@@ -40,6 +40,12 @@ public final class FaceTest {
         check.dueTrue("a public final class", TemporaryReals.class.getModifiers()
                 == (Modifier.PUBLIC | Modifier.FINAL));
         check.due("NONE", TemporaryReals.NONE, -1);
+        check.by("LANGUAGE.md, rule 1: No private method bears the name of a public one");
+        Set<String> names = Set.of("control", "set", "part", "make", "again", "last", "compare", "neighbour");
+        for (Method method : TemporaryReals.class.getDeclaredMethods()) {
+            check.dueTrue(method + " has a name of its own", !Modifier.isPrivate(method.getModifiers())
+                    || !names.contains(method.getName()));
+        }
         check.end();
     }
 

@@ -2,9 +2,6 @@ import java.math.BigInteger;
 
 /** Promises 2, 5, 6 and 7 together: make() and again() against the model under every control that matters. */
 public final class MakeModelTest {
-    /** Where the first digit is aimed at: about these powers the way of making changes. */
-    private static final int[] AIMS = {-33001, -16510, -16448, -16446, -16445, -16444, -16435, -16434, -16433, -16406,
-        -16405, -16404, -16384, -16383, -16382, -16381, 0, 16381, 16382, 16383, 16384, 16385, 33127};
     private static final Check CHECK = new Check();
     private static final Patterns STREAM = new Patterns(5);
 
@@ -30,9 +27,7 @@ public final class MakeModelTest {
             boolean negative = STREAM.below(2) == 0;
             BigInteger doubled = Model.unsigned(high).shiftLeft(65).add(Model.unsigned(low).shiftLeft(1))
                     .add(l ? BigInteger.ONE : BigInteger.ZERO);
-            int e = STREAM.below(4) == 0 ? STREAM.below(66001) - 33000
-                    : AIMS[STREAM.below(AIMS.length)] - doubled.bitLength() + 2;
-            e = Math.max(-33000, Math.min(33000, e));
+            int e = STREAM.e(doubled);
             Model model = new Model();
             model.word = word;
             model.make(negative, doubled.multiply(Model.power(e - 1)));
@@ -57,12 +52,7 @@ public final class MakeModelTest {
     private static void againOf(int word, Patterns.Pattern from) {
         Model model = new Model();
         model.word = word;
-        if ((from.top() & 0x7fff) == 0x7fff) {
-            model.top = from.top();
-            model.fraction = Model.unsigned(from.fraction());
-        } else {
-            model.make((from.top() & 0x8000) != 0, Model.sizeOf(from.top(), from.fraction()));
-        }
+        model.again(from.top(), from.fraction());
         TemporaryReals x = new TemporaryReals();
         x.control(word);
         State.set(x, 5, from.top(), from.fraction());

@@ -77,6 +77,18 @@ final class Model {
         }
     }
 
+    void again(int fromTop, long fromFraction) {
+        if ((fromTop & 0x7fff) == 0x7fff) {
+            told = 0;
+            k = 0;
+            change = 0;
+            top = fromTop;
+            fraction = unsigned(fromFraction);
+        } else {
+            make((fromTop & 0x8000) != 0, sizeOf(fromTop, fromFraction));
+        }
+    }
+
     private void makeUnder(boolean negative, BigInteger x, BigInteger y) {
         boolean masked = (word & 16) != 0;
         BigInteger answer = masked ? roundTo(x, -16381 - digits(), negative) : y;

@@ -1,3 +1,4 @@
+import java.math.BigInteger;
 import java.util.ArrayList;
 import java.util.List;
 
@@ -14,6 +15,10 @@ final class Patterns {
         0x4000000000000001L, Long.MAX_VALUE - 1L, Long.MAX_VALUE, Long.MIN_VALUE, Long.MIN_VALUE + 1L,
         Long.MIN_VALUE + 0x400L, Long.MIN_VALUE + 0xc00L, Long.MIN_VALUE + (1L << 39), Long.MIN_VALUE + (3L << 39),
         0xc000000000000000L, -1L << 40, -1L << 39, -1L << 11, -1L << 10, -2L, -1L};
+
+    /** Where the first digit of a make() is aimed at: about these powers the way of making changes. */
+    private static final int[] AIMS = {-33001, -16510, -16448, -16446, -16445, -16444, -16435, -16434, -16433, -16406,
+        -16405, -16404, -16384, -16383, -16382, -16381, 0, 16381, 16382, 16383, 16384, 16385, 33127};
 
     private long state;
 
@@ -61,6 +66,12 @@ final class Patterns {
             default:
                 return next() << below(64);
         }
+    }
+
+    /** The e of a make() of 2 g + l: mostly such that the first digit is at one of the aims, always an allowed one. */
+    int e(BigInteger doubled) {
+        int e = below(4) == 0 ? below(66001) - 33000 : AIMS[below(AIMS.length)] - doubled.bitLength() + 2;
+        return Math.max(-33000, Math.min(33000, e));
     }
 
     Pattern pattern() {
